@@ -722,7 +722,9 @@ public final class LatinLaws {
         private static final int SIDE = MOST_ELEMENTS_FOR_GROUP;
 
         private int n;
+        // Where each kept one takes each element, and from where it takes it.
         private final int[] images;
+        private final int[] sources;
         // The j that i can go to by a kept one, as bits for each i.
         private final int[] reached;
         private final int[] kept;
@@ -731,6 +733,7 @@ public final class LatinLaws {
 
         Turns() {
             images = new int[SIDE * SIDE * SIDE];
+            sources = new int[SIDE * SIDE * SIDE];
             reached = new int[SIDE];
             kept = new int[SIDE * SIDE];
             tried = new int[SIDE];
@@ -769,7 +772,7 @@ public final class LatinLaws {
 
         private void takeProduct(int place, int next) {
             for (int x = 0; x < n; x++) {
-                tried[x] = imageBy(next, imageBy(place, x));
+                tried[x] = read(images, next, read(images, place, x));
             }
             take();
         }
@@ -792,7 +795,10 @@ public final class LatinLaws {
             if (keptCount < SIDE * SIDE) {
                 int place = SIDE * i + j;
                 reached[i] |= 1 << j;
-                System.arraycopy(tried, 0, images, SIDE * place, SIDE);
+                for (int x = 0; x < n; x++) {
+                    write(images, place, x, tried[x]);
+                    write(sources, place, tried[x], x);
+                }
                 kept[keptCount] = place;
                 keptCount++;
             }
@@ -800,21 +806,20 @@ public final class LatinLaws {
 
         private void undo(int place) {
             for (int x = 0; x < n; x++) {
-                tried[x] = sourceBy(place, tried[x]);
+                tried[x] = read(sources, place, tried[x]);
             }
         }
 
-        private int imageBy(int place, int x) {
-            return isBelow(place, SIDE * SIDE) && isBelow(x, n) ? images[SIDE * place + x] : x;
+        private static int read(int[] rows, int place, int x) {
+            int index = SIDE * place + x;
+            return index >= 0 && index < rows.length ? rows[index] : x;
         }
 
-        private int sourceBy(int place, int y) {
-            for (int x = 0; x < n; x++) {
-                if (imageBy(place, x) == y) {
-                    return x;
-                }
+        private static void write(int[] rows, int place, int x, int value) {
+            int index = SIDE * place + x;
+            if (index >= 0 && index < rows.length) {
+                rows[index] = value;
             }
-            return y;
         }
 
         private int countChoices() {
