@@ -680,7 +680,13 @@ public final class LatinLaws {
         }
 
         private static int leastBeside(Table t, int x, int h) {
-            return Integer.numberOfTrailingZeros(fromLeft(t, x, h));
+            int beside = fromLeft(t, x, h);
+            for (int a = 0; a < t.n; a++) {
+                if (has(beside, a)) {
+                    return a;
+                }
+            }
+            return 0;
         }
 
         private static int place(int set, int a) {
